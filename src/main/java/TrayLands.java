@@ -632,20 +632,18 @@ public final class TrayLands {
         }
 
         int weightOf(int set) {
-            int sum = 0;
-            for (int t = 0; t < MOST_THINGS; t++) {
-                if (has(set, t)) {
-                    sum += weights[t];
-                }
-            }
-            return sum;
+            return sumOf(weights, set);
         }
 
         int worthOf(int set) {
+            return sumOf(worths, set);
+        }
+
+        static int sumOf(int[] amounts, int set) {
             int sum = 0;
-            for (int t = 0; t < MOST_THINGS; t++) {
+            for (int t = 0; t < amounts.length; t++) {
                 if (has(set, t)) {
-                    sum += worths[t];
+                    sum += amounts[t];
                 }
             }
             return sum;

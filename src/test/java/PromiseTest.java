@@ -161,6 +161,7 @@ public final class PromiseTest {
         due("3 no things", x.told(9), 0);
         due("3 no minutes", x.minute(1), NOT);
         read("   ", 0, NONE);
+        read(" ".repeat(240), 0, NONE);
     }
 
     private static void fault() {
@@ -391,6 +392,12 @@ public final class PromiseTest {
         y.treaty(0, 1, false);
         y.minute(1);
         due("9 both spill the heaviest of both sides", y.told(8), 10);
+        TrayLands z = made("h2 0;p0 1;w0 99;w1 99;t1 1;t1 1;");
+        z.lay(0, 0, 0);
+        z.lay(1, 1, 1);
+        z.route(0, 2);
+        z.minute(1);
+        due("9 the lightest", z.told(8), 3);
     }
 
     private static void route() {
@@ -411,6 +418,8 @@ public final class PromiseTest {
         due("10 where he is", x.route(0, 1), NOT);
         due("10 later not joined", x.route(0, 24), NOT);
         due("10 same twice", x.route(0, 22), NOT);
+        due("10 the ninth from behind is no room", x.route(0, 712121212), OUTSIDE);
+        due("10 the ninth not joined", x.route(0, 212121214), NOT);
         due("10 unknown", x.route(3, -1), UNKNOWN);
         due("10 none", x.route(-1, 0), UNKNOWN);
         due("10 refused changes nothing", x.waiter(0, 6), 4);
@@ -484,6 +493,10 @@ public final class PromiseTest {
         x.drift(1);
         due("14 one draw if he has a route", x.seed(5), 12345);
         TrayLands alone = made("h1 0;w0 1;");
+        TrayLands side = made("h2 0;p0 1;w1 9;");
+        side.drift(1);
+        due("14 the only room is drawn", side.waiter(0, 0), 0);
+        due("14 by a draw", side.seed(0), 1406932606);
         alone.drift(60);
         due("14 no room drawn where no passage is", alone.told(6), 60);
         TrayLands empty = made("h1 0;");
@@ -616,6 +629,7 @@ public final class PromiseTest {
         TrayLands ring = made("h4 0;p0 3;p3 2;p2 1;p1 0;");
         due("18 round", ring.way(0, 2, 0), 2);
         due("18 least round", ring.way(0, 2, 1), 1);
+        due("18 by room 0", ring.way(1, 3, 1), 0);
         TrayLands longest = made("h8 0;p0 1;p1 2;p2 3;p3 4;p4 5;p5 6;p6 7;");
         due("18 longest", longest.way(0, 7, 0), 7);
     }
@@ -624,6 +638,8 @@ public final class PromiseTest {
         TrayLands x = made("h5 0;p0 1;p1 2;p1 3;p2 4;w0 9;w3 9;");
         due("19 no routes", x.delays(NONE), 0);
         due("19 no delay", x.delays(0), 0);
+        x.route(0, 2);
+        due("19 one minute", x.delays(NONE), 1);
         x.route(0, 23);
         x.route(1, 235);
         // Both want room 1 first. If 1 waits, 0 is through ahead of him; if 0 waits, all is as late as 1 is at best.
@@ -652,6 +668,7 @@ public final class PromiseTest {
         due("19 no way past", y.delays(NONE), NONE);
         y.treaty(0, 1, true);
         due("19 treaties do not help", y.delays(NONE), NONE);
+        late();
         TrayLands four = made("h6 0;p0 4;p1 4;p2 4;p3 4;p4 5;w0 9;w1 9;w2 9;w3 9;");
         four.route(0, 51);
         four.route(1, 52);
@@ -661,6 +678,23 @@ public final class PromiseTest {
         for (int w = 0; w < 4; w++) {
             due("19 waiter by waiter the least", four.delays(w), w);
         }
+    }
+
+    /** One goes to and fro ahead of a door that the other needs for good. */
+    private static void late() {
+        TrayLands x = made("h3 0;p0 1;p1 2;w0 9;w1 9;");
+        x.route(1, 3232321);
+        x.route(0, 2);
+        due("19 he never comes through", x.delays(NONE), NONE);
+        TrayLands y = made("h5 0;p0 1;p1 2;p2 3;p1 4;w0 9;w3 9;");
+        y.route(0, 23);
+        y.route(1, 34325);
+        due("19 four do", y.delays(NONE), 6);
+        due("19 four", y.delays(0), 4);
+        TrayLands z = made("h5 0;p0 1;p1 2;p2 3;p1 4;w0 9;w2 9;");
+        z.route(0, 23);
+        z.route(1, 434325);
+        due("19 five minutes would do", z.delays(NONE), NONE);
     }
 
     private static void served() {
@@ -720,12 +754,24 @@ public final class PromiseTest {
         x.lay(1, 0, 0);
         due("22 besides", x.packed(0, 0), 12);
         due("22 besides, worth", x.packed(0, 1), 21);
+        x.lay(3, 1, 0);
+        due("22 no more than is left", x.packed(1, 0), 4);
+        x.lay(2, 1, 0);
+        due("22 nothing is left", x.packed(1, 0), 0);
+        x.takeOff(1);
+        due("22 the tray is counted", x.packed(1, 0), 2);
+        x.takeOff(0);
+        due("22 too heavy together", x.packed(1, 0), 2);
         due("22 outside", x.packed(0, 2), OUTSIDE);
         due("22 below", x.packed(0, -1), OUTSIDE);
         due("22 unknown", x.packed(3, 2), UNKNOWN);
         TrayLands y = made("h1 0;w0 5;t5 3;t5 3;t1 0;t2 1;t3 2;");
         due("22 least set", y.packed(0, 0), 1);
         due("22 worth", y.packed(0, 1), 3);
+        TrayLands least = made("h1 0;w0 1;t1 1;");
+        due("22 worth 1", least.packed(0, 0), 1);
+        least.lay(0, 0, 0);
+        due("22 taken", least.packed(0, 0), 0);
         TrayLands z = made("h1 0;w0 5;t1 0;");
         due("22 nothing is worth as much", z.packed(0, 0), 0);
     }
@@ -799,6 +845,10 @@ public final class PromiseTest {
         x.see(1, 20, true);
         x.minute(1);
         due("26 from now", x.spiller(), 0);
+        x.route(0, 1);
+        x.tear();
+        x.see(0, 1, true);
+        due("26 room 0", x.spiller(), 1);
     }
 
     private static void look() {
@@ -870,6 +920,9 @@ public final class PromiseTest {
         due("30 as it is now", x.judge(), 1);
         x.undo();
         due("30 undone", x.judge(), 2);
+        x.tear();
+        x.write(0, 1);
+        due("30 entry 0", x.judge(), 0);
     }
 
     private static void seed() {

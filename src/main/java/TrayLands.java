@@ -1183,7 +1183,7 @@ public final class TrayLands {
 
         boolean haveClash() {
             for (int w = 0; w < plan.waiters; w++) {
-                for (int x = w + 1; x < plan.waiters; x++) {
+                for (int x = w + 1; x < plan.waiters && x < MOST_WAITERS; x++) {
                     if (has(clashes[w * MOST_WAITERS + x], waits[w] - waits[x] + WAITS)) {
                         return true;
                     }
@@ -1194,7 +1194,7 @@ public final class TrayLands {
 
         int endOfAll() {
             int end = 0;
-            for (int w = 0; w < plan.waiters; w++) {
+            for (int w = 0; w < plan.waiters && w < MOST_WAITERS; w++) {
                 if (steps[w] > 0) {
                     end = Math.max(end, waits[w] + steps[w]);
                 }
@@ -1243,7 +1243,7 @@ public final class TrayLands {
         }
 
         void markInTime() {
-            for (int o = 0; o < plan.orders; o++) {
+            for (int o = 0; o < plan.orders && o < MOST_ORDERS; o++) {
                 inTime[o] = 0;
                 for (int w = 0; w < plan.waiters; w++) {
                     int steps = plan.distance(now.roomOf(w), plan.orderRooms[o]);
@@ -1259,7 +1259,7 @@ public final class TrayLands {
         int ordersTaken() {
             int busy = 0;
             int count = 0;
-            for (int o = 0; o < plan.orders; o++) {
+            for (int o = 0; o < plan.orders && o < MOST_ORDERS; o++) {
                 int w = takers[o];
                 if (w == plan.waiters) {
                     continue;
@@ -1328,7 +1328,7 @@ public final class TrayLands {
         }
 
         boolean fitsAllSeen(int w) {
-            for (int i = 0; i < seen; i++) {
+            for (int i = 0; i < seen && i < MOST_SEEN; i++) {
                 if (has(now.roomsCameTo(w, seenMinutes[i]), seenRooms[i]) != seenPink[i]) {
                     return false;
                 }
@@ -1363,7 +1363,7 @@ public final class TrayLands {
         }
 
         int firstWrong() {
-            for (int i = 0; i < written; i++) {
+            for (int i = 0; i < written && i < MOST_WRITTEN; i++) {
                 if (now.roomOf(bookWaiters[i]) != bookRooms[i]) {
                     return i;
                 }

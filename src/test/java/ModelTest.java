@@ -47,6 +47,10 @@ public final class ModelTest {
     }
 
     private void due(String call, int got, int want) {
+        // A text or a busy house may end behind the last call whose answer is promised.
+        if (calls >= CALLS) {
+            return;
+        }
         calls++;
         log.add(call + " = " + got);
         if (got != want && !failed) {
